@@ -515,7 +515,7 @@ public final class GestureBook {
         }
 
         int trait(int k, int what) {
-            return isWithin(k, 0, ASKED) && isWithin(what, 0, SORT) ? traits[k * TRAITS + what] : NONE;
+            return k >= 0 && k <= ASKED && what >= 0 && what <= SORT ? traits[k * TRAITS + what] : NONE;
         }
 
         private void setTrait(int k, int what, int v) {
@@ -850,7 +850,7 @@ public final class GestureBook {
         }
 
         private int cell(int i, int column) {
-            return holds(i) ? cells[i * WIDTH + column] : NONE;
+            return i >= 0 && i < count ? cells[i * WIDTH + column] : NONE;
         }
 
         int countOf(int k) {
@@ -941,10 +941,11 @@ public final class GestureBook {
             int deeds = 0;
             int read = Math.min(words, state.sentence.count);
             for (int i = 0; i < read; i++) {
-                interpretWord(state, i);
+                int sort = state.sortOfWord(i);
+                interpretWord(state.sentence, i, sort);
                 clause[i] = deeds;
                 clauses = deeds + 1;
-                if (state.sortOfWord(i) == DEED) {
+                if (sort == DEED) {
                     deeds++;
                 }
                 if (vain[i]) {
@@ -953,15 +954,15 @@ public final class GestureBook {
             }
         }
 
-        private void interpretWord(State state, int i) {
-            int from = state.sentence.from(i);
-            int to = state.sentence.to(i);
+        private void interpretWord(Sentence sentence, int i, int sort) {
+            int from = sentence.from(i);
+            int to = sentence.to(i);
             vain[i] = false;
             first[i] = NONE;
             second[i] = NONE;
-            switch (state.sortOfWord(i)) {
+            switch (sort) {
                 case THING:
-                    setThing(to, state.sentence.signIn(i));
+                    setThing(to, sentence.signIn(i));
                     break;
                 case POINT:
                     first[i] = thingAt(to);
@@ -970,7 +971,7 @@ public final class GestureBook {
                 case DEED:
                     first[i] = thingAt(from);
                     second[i] = thingAt(to);
-                    vain[i] = from != NONE && first[i] == NONE || to != NONE && second[i] == NONE;
+                    vain[i] = (from != NONE && first[i] == NONE) || (to != NONE && second[i] == NONE);
                     break;
                 default:
                     break;
