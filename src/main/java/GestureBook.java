@@ -312,7 +312,8 @@ public final class GestureBook {
             case 's':
                 return now.lexicon.addSign(a, b, c, script.number(n, 3), script.number(n, 4));
             case 'w':
-                return executeWord(script.numbers(n), a, b, c);
+                // of two numbers the second one is "to"; spots that are not told are NONE already
+                return script.numbers(n) == 2 ? now.addWord(a, NONE, b) : now.addWord(a, b, c);
             case 'g':
                 return now.lexicon.setWeight(a, b);
             case 'l':
@@ -324,13 +325,6 @@ public final class GestureBook {
             default:
                 return BAD;
         }
-    }
-
-    private int executeWord(int numbers, int a, int b, int c) {
-        if (numbers == 1) {
-            return now.addWord(a, NONE, NONE);
-        }
-        return numbers == 2 ? now.addWord(a, NONE, b) : now.addWord(a, b, c);
     }
 
     private void examineSentence() {
@@ -1185,6 +1179,7 @@ public final class GestureBook {
             return isWithin(n, 0, orders - 1) ? counts[n] : 0;
         }
 
+        /** NONE if the order has no such number. */
         int number(int n, int index) {
             return isWithin(index, 0, numbers(n) - 1) ? values[n * MOST_NUMBERS + index] : NONE;
         }

@@ -136,6 +136,16 @@ public final class LookupTest {
         x.weight(2, 0);
         due.is("13: without weight", x.groups(0, 1), 5);
         due.is("13: d 99", x.groups(99, 0), 1);
+        GestureBook two = new GestureBook();
+        two.sign(0, 0, 0, 0, 0);
+        two.sign(0, 0, 0, 1, 0);
+        due.is("13: two neighbours", two.groups(1, 0), 1);
+        due.is("13: both in one", two.groups(1, 1), 2);
+        due.is("13: apart", two.groups(0, 0), 2);
+        GestureBook full = new GestureBook();
+        full.draws(7, 16);
+        due.is("13: sixteen signs", full.groups(99, 0) * 100 + full.groups(99, 1), 116);
+        due.is("13: sixteen clusters", full.groups(0, 0) * 100 + full.groups(0, 1), 1601);
         due.is("13: d 100", x.groups(100, 0), BAD);
         due.is("13: d -1", x.groups(-1, 0), BAD);
         due.is("13: what 2", x.groups(0, 2), BAD);

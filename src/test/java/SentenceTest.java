@@ -7,6 +7,7 @@ public final class SentenceTest {
     public static void main(String[] args) {
         promise17();
         promise18();
+        fullSentence();
         promise19();
         promise20();
         promise21Plain();
@@ -78,6 +79,40 @@ public final class SentenceTest {
         x.back();
         x.back();
         due.holds("18: undone", words(x).equals("0:0:1 2:2:3 3:3:4 "));
+    }
+
+    private static GestureBook sixteenWords() {
+        GestureBook x = signs();
+        for (int i = 0; i < 16; i++) {
+            x.word(i == 0 ? DEED + 1 : DEED, i % 6, 5 - i % 6);
+        }
+        return x;
+    }
+
+    private static void fullSentence() {
+        GestureBook x = sixteenWords();
+        due.is("23: clauses", x.all(1), 16);
+        due.is("23: vain words", x.all(2), 16);
+        due.is("23: spots", x.all(6), 63);
+        due.is("23: path", x.all(5), 46 + 30);
+        due.is("19: the first to the end", x.shifts(0, 15), 15);
+        due.is("19: there", x.wordOf(15, 0), DEED + 1);
+        due.is("19: the last to the middle", x.shifts(15, 8), 7);
+        due.is("19: there", x.wordOf(8, 0), DEED + 1);
+        due.is("4: a sign less", x.drops(POINT), 7);
+        due.is("4: in the last word", x.wordOf(15, 0), DEED - 1);
+        due.is("4: in the middle", x.wordOf(8, 0), DEED);
+        due.is("18: from the middle", x.cuts(8), 15);
+        due.is("18: its sign is free", x.of(DEED, 5), 0);
+        due.is("20: all", x.clears(), 15);
+        due.is("23: no clauses", x.all(1), 0);
+        due.is("23: no vain words", x.all(2), 0);
+        due.is("23: no path", x.all(5) + x.all(6), 0);
+        for (int i = 0; i < 16; i++) {
+            GestureBook y = sixteenWords();
+            due.is("18: word " + i + " of sixteen", y.cuts(i), 15);
+            due.is("18: none is lost", y.of(DEED, 5) + y.of(DEED + 1, 5), 15);
+        }
     }
 
     private static void promise19() {

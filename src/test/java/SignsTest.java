@@ -206,6 +206,8 @@ public final class SignsTest {
         due.is("6: n 0", x.draws(1, 0), BAD);
         due.is("6: n 17", x.draws(1, 17), BAD);
         due.is("6: nothing kept", x.told(6), 0);
+        due.is("6: one", x.draws(5, 1), 1);
+        x.back();
         due.is("6: the greatest seed", x.draws(999999, 16), 16);
         due.is("6: no room is no error", x.draws(1, 16), 0);
         due.is("6: FULL not counted", x.told(2) + x.told(1), 0);

@@ -5,6 +5,7 @@ public final class StateTest {
 
     public static void main(String[] args) {
         promise31();
+        promise31AfterErrors();
         promise31Everything();
         promise31WhatKeepsAState();
         promise32();
@@ -37,6 +38,21 @@ public final class StateTest {
         due.is("31: back()", x.back(), 0);
         due.is("31: signs", x.told(4), 2);
         due.is("31: none", x.back(), NO);
+    }
+
+    private static void promise31AfterErrors() {
+        GestureBook x = new GestureBook();
+        for (int k = 0; k < 5; k++) {
+            x.sign(k, 0, 0, 0, 0);
+        }
+        x.sign(0, 0, 0, 0, 0);
+        x.type('d');
+        x.type('9');
+        x.type(';');
+        due.is("31: not possible", x.reads(), -1000);
+        for (int left = 4; left >= 0; left--) {
+            due.is("31: errors forget nothing", x.back() * 10 + x.told(4), left * 11);
+        }
     }
 
     private static void promise31Everything() {

@@ -13,6 +13,8 @@ public final class TextTest {
         promise30ImpossibleOrders();
         promise30NothingChanged();
         promise30Undone();
+        promise30TwoDigits();
+        promise30AfterAnotherText();
         promise30Long();
         due.end();
     }
@@ -217,6 +219,26 @@ public final class TextTest {
         due.is("30: positions", x.lay(0), 0);
         due.is("30: the text stays", x.told(3), 39);
         due.is("30: and can be read again", x.reads(), 6);
+    }
+
+    private static void promise30TwoDigits() {
+        GestureBook x = new GestureBook();
+        x.draws(7, 16);
+        tell(x, "w 10; w15 05; w 9 00 1; d14; d 14; w13;");
+        due.is("30: the sign with number 15 became 14", x.reads(), -1004);
+        tell(x, "w 10; w15 05; w 9 00 1; d14; d 13; w13;");
+        due.is("30: numbers of two digits", x.reads(), 6);
+        due.is("30: words", x.wordOf(0, 0) * 100 + x.wordOf(1, 0), 1013);
+        due.is("30: words", x.wordOf(2, 0) * 100 + x.wordOf(3, 0), 913);
+    }
+
+    private static void promise30AfterAnotherText() {
+        GestureBook x = with("s1 2 3 4 1;w0 1 2;d9;");
+        x.reads();
+        tell(x, "w;");
+        due.is("30: numbers of an earlier text do not count", x.reads(), -11);
+        tell(x, "s1 2 3 4 1;w0;");
+        due.is("30: nor do spots", x.reads() * 100 + x.wordOf(0, 1) * 10 + x.wordOf(0, 2), 189);
     }
 
     private static void promise30Long() {
