@@ -215,6 +215,10 @@ final class DescriptionEdges {
                 vain("T00", 0, 0);
                 vain("N05", 0, 0);
                 vain("N-0 P50", 1, 0);
+                GestureBook point = Books.said("P-0");
+                e.is(point.all(2) * 10 + point.wordOf(0, 4), 11);
+                point.becomes(2, 4, 0);
+                e.is(point.all(2) * 10 + point.wordOf(0, 4), 0);
                 e.asks(() -> Books.said("N-0 T00"), NONE, x -> x.wordOf(1, 5));
                 e.asks(() -> Books.said("N-0 n-1 P10"), THING, x -> x.wordOf(2, 5));
                 e.asks(() -> Books.said("N-0 P0-"), NONE, x -> x.wordOf(1, 5));

@@ -67,9 +67,10 @@ final class Edges {
             .map(frame -> frame.getFileName() + ":" + frame.getLineNumber()).findFirst().orElse("?"));
     }
 
-    /** The call gives this answer and is no change at all. */
+    /** The call gives this answer, gives it again when it is made again, and is no change at all. */
     void asks(Start start, long want, Call call) {
         GestureBook x = start.book();
+        is(call.on(x), want);
         is(call.on(x), want);
         same(x, start.book());
     }

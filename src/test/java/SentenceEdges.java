@@ -190,6 +190,17 @@ final class SentenceEdges {
             e.undoes(Books::empty, 0, x -> x.clears());
             e.undoes(Books::rich, 4, x -> x.clears());
         });
+        e.says("Removes all words.", () -> {
+            GestureBook x = Books.said("P05 T05 D05 ".repeat(5).trim());
+            for (int what = 0; what <= 6; what++) {
+                e.is(x.all(what) > 0 ? 1 : 0, 1);
+            }
+            x.clears();
+            for (int what = 0; what <= 6; what++) {
+                e.is(x.all(what), 0);
+            }
+            e.is(x.wordOf(0, 0), BAD);
+        });
         e.says("Returns how many there were.", () -> {
             e.undoes(Books::sixteen, 0, x -> x.clears());
             e.undoes(() -> Books.said("T"), 1, x -> x.clears());

@@ -183,6 +183,7 @@ final class SignEdges {
             e.undoes(() -> Books.signs(1), 0, x -> x.drops(0));
             e.undoes(Books::sixteen, 15, x -> x.drops(15));
             e.undoes(Books::rich, 7, x -> x.drops(4));
+            e.undoes(Books::sixteenWords, 7, x -> x.drops(7));
         });
         e.says("`k`: the sign", () -> {
             e.range(Books::five, 0, 4, (x, v) -> x.drops(v));

@@ -67,7 +67,7 @@ public final class StateTest {
         x.told(11);
         long[] digests = new long[5];
         for (int n = 0; n < 5; n++) {
-            digests[n] = digestWithoutKept(x);
+            digests[n] = Sight.ofState(x);
             if (n == 0) {
                 x.becomes(0, 0, 7);
             } else if (n == 1) {
@@ -82,27 +82,10 @@ public final class StateTest {
         }
         for (int n = 4; n >= 0; n--) {
             due.is("31: back()", x.back(), n);
-            due.is("31: as before call " + n, digestWithoutKept(x), digests[n]);
+            due.is("31: as before call " + n, Sight.ofState(x), digests[n]);
         }
         due.is("31: the text stays", x.told(3), 1);
         due.is("31: the counts of errors stay", x.told(0), 1);
-    }
-
-    /** A digest of all that a state has, and of the counts of errors and the text. */
-    private static long digestWithoutKept(GestureBook x) {
-        return x.digest() - x.told(6) * powerOf31(numbersBehindKept(x));
-    }
-
-    private static int numbersBehindKept(GestureBook x) {
-        return 4 + 6 * x.told(4) + 7 * x.told(5) + 7 + 6 + 3;
-    }
-
-    private static long powerOf31(int n) {
-        long power = 1;
-        for (int i = 0; i < n; i++) {
-            power *= 31;
-        }
-        return power;
     }
 
     private static void promise31WhatKeepsAState() {

@@ -184,6 +184,10 @@ final class TextEdges {
             reads("l0 1 2 3 4;", -10 - 10);
             reads("l0 1 2 3 4 5 6;", -10 - 13);
             reads("c;".repeat(59) + "c:", -10 - 119);
+            GestureBook x = Books.typed("s1 2 3 4 1;w0 1 2;d9;");
+            e.is(x.reads(), -1002);
+            e.is(Books.typed(x, "s;w;d;").reads(), -10 - 1);
+            e.is(Books.typed(x, "s1 2 3 4 1;w;").reads(), -10 - 12);
         });
         e.says("(also of a third digit)", () -> {
             reads("d000;", -10 - 3);
