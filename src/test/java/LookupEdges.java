@@ -168,6 +168,8 @@ final class LookupEdges {
                 e.asks(LookupEdges::chain, 2, x -> x.groups(2, 0));
                 e.asks(LookupEdges::chain, 1, x -> x.groups(3, 0));
                 e.asks(LookupEdges::chain, 6, x -> x.groups(3, 1));
+                GestureBook again = chain();
+                e.is(again.groups(1, 0) * 10 + again.groups(0, 0), 26);
                 e.asks(() -> Books.extremes(5), 2, x -> x.groups(69, 0));
                 e.asks(() -> Books.extremes(5), 1, x -> x.groups(70, 0));
             });
