@@ -198,7 +198,7 @@ public final class GestureBook {
     }
 
     public int lay(int spot) {
-        return isSpot(spot) ? now.positions[spot] : counted(BAD);
+        return isSpot(spot) ? now.position(spot) : counted(BAD);
     }
 
     public int best(int spot) {
@@ -212,7 +212,7 @@ public final class GestureBook {
     public int settles() {
         past.stage(now);
         findBestArrangement();
-        int previous = path.lengthWith(now.positions);
+        int previous = path.lengthIn(now);
         System.arraycopy(arranger.found, 0, now.positions, 0, SPOTS);
         return undoable(previous - arranger.least);
     }
@@ -264,7 +264,7 @@ public final class GestureBook {
             h = mixed(h, sentenceProperty(what));
         }
         for (int spot = 0; spot < SPOTS; spot++) {
-            h = mixed(h, now.positions[spot]);
+            h = mixed(h, now.position(spot));
         }
         h = mixed(h, arranger.least);
         h = mixed(h, contrasts.minimalPairs(NONE));
@@ -372,7 +372,7 @@ public final class GestureBook {
             case 4:
                 return wordOrder.moves;
             case 5:
-                return path.lengthWith(now.positions);
+                return path.lengthIn(now);
             default:
                 return path.setOfSpots();
         }
@@ -456,6 +456,10 @@ public final class GestureBook {
                 return BAD;
             }
             return sentence.append(k, f, t);
+        }
+
+        int position(int spot) {
+            return isSpot(spot) ? positions[spot] : NONE;
         }
 
         int layOne(int spot, int v) {
@@ -728,23 +732,30 @@ public final class GestureBook {
 
         void find(Lexicon lexicon, int d) {
             Arrays.fill(sizes, 0);
-            for (int k = 0; k < lexicon.count; k++) {
+            int count = Math.min(lexicon.count, SIGNS);
+            for (int k = 0; k < SIGNS; k++) {
                 labels[k] = k;
             }
-            for (int j = 0; j < lexicon.count; j++) {
-                for (int k = j + 1; k < lexicon.count; k++) {
+            for (int j = 0; j < count; j++) {
+                for (int k = j + 1; k < count; k++) {
                     if (labels[j] != labels[k] && lexicon.distance(j, k) <= d) {
-                        join(labels[j], labels[k], lexicon.count);
+                        join(labels[j], labels[k]);
                     }
                 }
             }
-            for (int k = 0; k < lexicon.count; k++) {
-                sizes[labels[k]]++;
+            for (int k = 0; k < count; k++) {
+                enlarge(labels[k]);
             }
         }
 
-        private void join(int label, int other, int count) {
-            for (int k = 0; k < count; k++) {
+        private void enlarge(int label) {
+            if (isWithin(label, 0, SIGNS - 1)) {
+                sizes[label]++;
+            }
+        }
+
+        private void join(int label, int other) {
+            for (int k = 0; k < SIGNS; k++) {
                 if (labels[k] == other) {
                     labels[k] = label;
                 }
@@ -780,8 +791,14 @@ public final class GestureBook {
             Arrays.fill(pairs, 0);
             for (int j = 0; j < lexicon.count; j++) {
                 for (int k = j + 1; k < lexicon.count; k++) {
-                    pairs[lexicon.differingParts(j, k)]++;
+                    countPair(lexicon.differingParts(j, k));
                 }
+            }
+        }
+
+        private void countPair(int differing) {
+            if (isWithin(differing, 0, SETS - 1)) {
+                pairs[differing]++;
             }
         }
 
@@ -1034,10 +1051,14 @@ public final class GestureBook {
             }
         }
 
-        int lengthWith(int[] positions) {
+        int spot(int n) {
+            return isWithin(n, 0, count - 1) ? spots[n] : NONE;
+        }
+
+        int lengthIn(State state) {
             int length = 0;
             for (int n = 1; n < count; n++) {
-                length += Math.abs(positions[spots[n]] - positions[spots[n - 1]]);
+                length += Math.abs(state.position(spot(n)) - state.position(spot(n - 1)));
             }
             return length;
         }
@@ -1045,7 +1066,7 @@ public final class GestureBook {
         int setOfSpots() {
             int set = 0;
             for (int n = 0; n < count; n++) {
-                set |= 1 << spots[n];
+                set |= 1 << spot(n);
             }
             return set;
         }
@@ -1061,12 +1082,16 @@ public final class GestureBook {
         void arrange(Path path) {
             Arrays.fill(steps, 0);
             for (int n = 1; n < path.count; n++) {
-                int a = path.spots[n - 1];
-                int b = path.spots[n];
-                steps[Math.max(a, b) * SPOTS + Math.min(a, b)]++;
+                countStep(path.spot(n - 1), path.spot(n));
             }
             least = Integer.MAX_VALUE;
             placeFrom(this, 0, 0, 0);
+        }
+
+        private void countStep(int a, int b) {
+            if (isSpot(a) && isSpot(b)) {
+                steps[Math.max(a, b) * SPOTS + Math.min(a, b)]++;
+            }
         }
 
         /**
